@@ -479,12 +479,9 @@ public final class NewDishes {
     }
 
     public int menu(int s, int kind) {
-        int fault = sheetFault(s);
+        int fault = menuFault(s, kind);
         if (fault != 0) {
             return finding(fault);
-        }
-        if (!isBelow(kind, KINDS)) {
-            return finding(BEYOND);
         }
         Sheet sheet = sheets[s];
         kitchen.begin(bureau);
@@ -499,12 +496,9 @@ public final class NewDishes {
     }
 
     public int read(int s, int kind) {
-        int fault = sheetFault(s);
+        int fault = menuFault(s, kind);
         if (fault != 0) {
             return finding(fault);
-        }
-        if (!isBelow(kind, KINDS)) {
-            return finding(BEYOND);
         }
         Sheet sheet = sheets[s];
         kitchen.begin(bureau);
@@ -582,6 +576,12 @@ public final class NewDishes {
             return BEYOND;
         }
         return sheets[s].isMissing() ? MISSING : 0;
+    }
+
+    /** As sheetFault, then BEYOND if there is no such kind. */
+    private int menuFault(int s, int kind) {
+        int fault = sheetFault(s);
+        return fault == 0 && !isBelow(kind, KINDS) ? BEYOND : fault;
     }
 
     // ---- numbers of dishes
@@ -669,12 +669,17 @@ public final class NewDishes {
         return manners;
     }
 
+    private static boolean barsParts(int kind) {
+        return kind == PARTED || kind == FEAST;
+    }
+
+    private static boolean isPartEitherWay(int one, int other) {
+        int both = one & other;
+        return both == one || both == other;
+    }
+
     private static boolean barsSet(int kind, int entrySet, int set) {
-        if (kind == PARTED || kind == FEAST) {
-            int both = entrySet & set;
-            return both == entrySet || both == set;
-        }
-        return entrySet == set;
+        return barsParts(kind) ? isPartEitherWay(entrySet, set) : entrySet == set;
     }
 
     private static boolean barsDish(int kind, int entryDish, int dish, int edicts) {
@@ -870,16 +875,21 @@ public final class NewDishes {
 
         void bar(int kind, int dish, int edicts) {
             int manners = mannersBarred(kind, mannerOf(dish), edicts);
-            if (manners == 0) {
+            int own = setOf(dish);
+            if (!barsParts(kind)) {
+                barIn(own, manners);
                 return;
             }
             for (int i = 0; i < SETS.length; i++) {
-                int set = SETS[i];
-                if (barsSet(kind, setOf(dish), set)) {
-                    again[set] |= once[set] & manners;
-                    once[set] |= manners;
+                if (isPartEitherWay(own, SETS[i])) {
+                    barIn(SETS[i], manners);
                 }
             }
+        }
+
+        private void barIn(int set, int manners) {
+            again[set] |= once[set] & manners;
+            once[set] |= manners;
         }
 
         int unbarred() {
@@ -1000,17 +1010,18 @@ public final class NewDishes {
         /** The most liked dish that can be and is new, of those told for each set, or -1. */
         int favouriteAmong(int[] mannersBySet) {
             int inStock = inStore(stock);
+            int likedMost = likedManners[favourites[0]];
             int best = -1;
             int most = 0;
             for (int i = 0; i < SETS.length; i++) {
                 int set = SETS[i];
-                int manner = favouriteManner(servableManners(set, inStock) & mannersBySet[set]);
-                if (manner < 0) {
+                // Lasting kitchens ask this often: a set that can't win isn't looked into.
+                if (best >= 0 && likedSets[set] + likedMost <= most) {
                     continue;
                 }
-                int liking = likedSets[set] + likedManners[manner];
-                if (best < 0 || liking > most) {
-                    most = liking;
+                int manner = favouriteManner(servableManners(set, inStock) & mannersBySet[set]);
+                if (manner >= 0 && (best < 0 || likedSets[set] + likedManners[manner] > most)) {
+                    most = likedSets[set] + likedManners[manner];
                     best = MANNERS * set + manner;
                 }
             }

@@ -231,6 +231,16 @@ public final class PromisesTest {
         NewDishes x = new NewDishes();
         x.store(0, 0);
         due("10 can be", (92 - 29) * 20, x.many(0));
+        due("10 all are new", 1840, x.many(1));
+        NewDishes quail = new NewDishes();
+        emptyStores(quail);
+        quail.store(0, 1);
+        due("10 one thing", 20, quail.many(0));
+        due("10 one thing", 20, quail.many(2));
+        quail.enter(0, 20);
+        due("10 one thing", 19, quail.many(2));
+        due("10 quail barred", 1, quail.entryOf(0, 3));
+        due("11 quail", 21, quail.next(0));
         x.enter(4, x.dish(2, 0, 0));
         due("10 new", 1840 - 580, x.many(1));
         // Sets without quail: 7 + 21 + 35; of these with rice 1 + 6 + 15.
@@ -382,6 +392,10 @@ public final class PromisesTest {
         due("19 barred by a part of it only later", NONE, x.breach());
         x.enter(0, 20 * 9 + 3);
         due("19 by a feast", 5, x.breach());
+        NewDishes two = new NewDishes();
+        two.enter(0, 20);
+        two.enter(0, 20);
+        due("19 by the first", 1, two.breach());
     }
 
     /** Promise 20. */
@@ -392,6 +406,10 @@ public final class PromisesTest {
         due("20 one of no use", 0, x.keenest());
         x.enter(0, 60);
         due("20 one", 1, x.keenest());
+        NewDishes quail = new NewDishes();
+        quail.enter(2, 40);
+        quail.enter(3, 20);
+        due("20 quail", 1, quail.keenest());
         x.enter(0, 60);
         due("20 two the same", 0, x.keenest());
         x.enter(5, 100);
@@ -702,6 +720,13 @@ public final class PromisesTest {
         due("34 day", 1, book(x, "day 9999"));
         due("34 long number", 1, book(x, "day 00000000000000000000000012"));
         due("34 day", 12, x.now(0));
+        due("34 day 0", 1, book(x, "day 0"));
+        due("34 day", 0, x.now(0));
+        due("34 thing 0", 1, book(x, "loathes thing 0 4"));
+        due("34 loathed", -4, x.of(20, 3));
+        due("34 most bytes", 18, book(x, "day 1;day 1;day 1;day 1;day 1;day 1;day 1;day 1;day 1;day 1;"
+            + "day 1;day 1;day 1;day 1;day 1;day 1;day 123; edict sauces on"));
+        due("34 edict at the end", 2, x.count(1));
         due("34 no finding", 0, x.status(-1));
     }
 
@@ -756,6 +781,17 @@ public final class PromisesTest {
         fault(5, "day 1" + (char) 200);
         fault(15, "edict ways off;stores 1 1");
         fault(4, "day day X");
+        fault(0, "dayz 1");
+        fault(0, "xay 1");
+        // Each of these ends too early, and so does each with a sign that ends it.
+        for (String text : new String[] {"entry", "entry 1", "entry 1 2 3", "entry 1 way", "entry 1 way 0",
+            "entry 1 way 0 sauce", "store", "store 1", "likes", "likes thing", "likes thing 1", "loathes",
+            "loathes sauce", "loathes sauce 0", "edict", "edict ways", "day"}) {
+            fault(text.length(), text);
+            fault(text.length() + 3, text + "   ");
+            fault(text.length() + 1, text + " ;day 1");
+            fault(text.length() + 1, text + " " + (char) 0);
+        }
         fault(120, "day 1;day 1;day 1;day 1;day 1;day 1;day 1;day 1;day 1;day 1;"
             + "day 1;day 1;day 1;day 1;day 1;day 1;day 1;day 1;day 1;day 1;");
     }
@@ -933,6 +969,8 @@ public final class PromisesTest {
         x.write(0, 1, 42);
         x.write(0, 2, 43);
         due("40 whatever day", 0, x.read(0, 0));
+        x.write(0, 2, 4499);
+        due("40 the last dish", 0, x.read(0, 0));
     }
 
     /** Promises 41 to 43. */
