@@ -763,7 +763,7 @@ public final class NewDishes {
         }
 
         boolean canServe(int kind, int dish) {
-            return canBe(dish) && (kind == GUEST || isNew(dish));
+            return canBe(dish) && (kind == GUEST || firstBarring(dish, entries) < 0);
         }
 
         boolean isFull() {
@@ -1368,7 +1368,8 @@ public final class NewDishes {
         private int valueOfDigits() {
             int sum = 0;
             for (int i = start; i < end && i < MOST_BYTES; i++) {
-                sum = Math.min(TOO_MUCH, 10 * sum + bytes[i] - '0');
+                int longer = 10 * sum + bytes[i] - '0';
+                sum = longer < TOO_MUCH ? longer : TOO_MUCH;
             }
             return sum;
         }

@@ -466,6 +466,22 @@ public final class PromisesTest {
         due("22 below nothing", 20 + 2, x.best());
         emptyStores(x);
         due("22 none", NONE, x.best());
+        // {1} is liked more than {0}, but its best manners are barred, so that both come to 3.
+        NewDishes tie = new NewDishes();
+        emptyStores(tie);
+        tie.store(0, 1);
+        tie.store(1, 1);
+        tie.like(0, 0, 1);
+        tie.like(0, 1, 3);
+        tie.like(1, 0, 2);
+        tie.edict(0, false);
+        tie.enter(0, 40);
+        for (int way = 0; way < 5; way++) {
+            tie.enter(0, 60 + 4 * way);
+        }
+        due("22 liking of the one", 3, tie.of(20, 3));
+        due("22 liking of the other", 3, tie.of(44, 3));
+        due("22 of two sets the least", 20, tie.best());
     }
 
     /** Promise 23. */
@@ -659,6 +675,11 @@ public final class PromisesTest {
         due("31 entries", 3, x.now(1));
         due("31 guests", 2, x.now(2));
         due("31 stores", 36, x.now(3));
+        x.strike();
+        due("31 a guest struck out", 1, x.now(2));
+        NewDishes full = new NewDishes();
+        fill(full, 2, 20);
+        due("31 all are guests", 30, full.now(2));
         for (int bad : new int[] {-1, 4, MIN, MAX}) {
             due("31 beyond", BEYOND, x.now(bad));
         }
@@ -782,6 +803,7 @@ public final class PromisesTest {
         fault(15, "edict ways off;stores 1 1");
         fault(4, "day day X");
         fault(0, "dayz 1");
+        fault(6, "day 1 day 2");
         fault(0, "xay 1");
         // Each of these ends too early, and so does each with a sign that ends it.
         for (String text : new String[] {"entry", "entry 1", "entry 1 2 3", "entry 1 way", "entry 1 way 0",
@@ -908,6 +930,12 @@ public final class PromisesTest {
         for (int thing = 0; thing < 8; thing++) {
             due("38 store " + thing, stores[thing], x.storeOf(thing));
         }
+        x.sheet(1, 8, 1);
+        due("38 one number", 1, x.lays(1));
+        due("38 its store", 0, x.storeOf(0));
+        due("38 no store behind it", 5, x.storeOf(1));
+        x.sheet(1, 8, 0);
+        due("38 no number", 0, x.lays(1));
         menus();
         readers();
     }
