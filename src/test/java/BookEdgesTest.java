@@ -277,6 +277,7 @@ public final class BookEdgesTest {
                 NewDishes x = new NewDishes();
                 Bench.tell(x, "day 9");
                 x.enter(from, 60);
+                Bench.tell(x, "day 9999");
                 b.due("turn", from, x.turn(0, to));
                 b.due("kind", to, x.entryOf(0, 0));
                 b.due("dish stays", 60, x.entryOf(0, 1));
@@ -528,6 +529,20 @@ public final class BookEdgesTest {
             x.enter(0, 20);
             x.enter(5, 40);
         }, x -> x.keenest());
+    }
+
+    @Words(promise = 20, say = "(that no other one BARS)")
+    static void keenestBehindOneThatWasStruckOut(Bench b) {
+        NewDishes x = new NewDishes();
+        x.enter(3, 20);
+        Bench.fill(x, 4, 40, 2);
+        b.due("two feasts of the same", 0, x.keenest());
+        x.strike();
+        b.due("one of them alone", 1, x.keenest());
+        x.enter(2, 40);
+        b.due("a guest bars nothing", 1, x.keenest());
+        x.turn(2, 4);
+        b.due("two feasts of the same again", 0, x.keenest());
     }
 
     @Words(promise = 20, say = "of several the least")

@@ -86,6 +86,9 @@ public final class MealsEdgesTest {
             Bench.stores(x, 1, 0, 0, 0, 0, 0, 0, 0);
         }, x -> x.best());
         b.due("a thing more of no liking", 20 * 2, x -> x.like(0, 1, 9), x -> x.best());
+        b.due("the first thing liked", 20, x -> x.like(0, 0, 9), x -> x.best());
+        b.due("the first way liked", 20, x -> x.like(1, 0, 9), x -> x.best());
+        b.due("the first sauce liked", 20, x -> x.like(2, 0, 9), x -> x.best());
         b.due("most of all", 20 * 224 + 19, x -> {
             for (int thing = 5; thing < 8; thing++) {
                 x.like(0, thing, 9);
@@ -93,6 +96,39 @@ public final class MealsEdgesTest {
             x.like(1, 4, 9);
             x.like(2, 3, 9);
         }, x -> x.best());
+    }
+
+    @Words(promise = 0, say = "with the greatest LIKING; of several the least number")
+    static void bestOfTwoSetsInUnlikeWays(Bench b) {
+        // Thing 1 is liked more than thing 0, but its best way was had: so raw {0} and fried {1} come to as much.
+        Bench.State alike = x -> {
+            Bench.stores(x, 1, 1, 0, 0, 0, 0, 0, 0);
+            x.like(0, 0, 1);
+            x.like(0, 1, 3);
+            x.like(1, 0, 2);
+            x.edict(0, false);
+            x.enter(0, 40);
+            for (int way = 0; way < 5; way++) {
+                x.enter(0, 60 + 4 * way);
+            }
+        };
+        b.due("liking of the one", 3, alike, x -> x.of(20, 3));
+        b.due("liking of the other", 3, alike, x -> x.of(44, 3));
+        b.due("the least", 20, alike, x -> x.best());
+        b.due("the greater liking", 44, both(alike, x -> x.like(1, 1, 1)), x -> x.best());
+    }
+
+    @Words(promise = 0, say = "BEST: the DISH that CAN BE and is NEW with the greatest LIKING")
+    static void bestGoesWithWhatIsLikedNow(Bench b) {
+        NewDishes x = Bench.made(y -> y.like(1, 4, 9));
+        b.due("the last way", 36, x.best());
+        x.like(1, 4, 0);
+        b.due("no way more than another", 20, x.best());
+        x.like(0, 0, -1);
+        x.like(2, 3, 1);
+        b.due("the last sauce", 43, x.best());
+        x.like(2, 3, -1);
+        b.due("the first sauce again", 40, x.best());
     }
 
     @Words(promise = 0, say = "ON: n MEALS, each of BEST, as a KIND (whatever DAY); nothing changes.")
@@ -474,6 +510,34 @@ public final class MealsEdgesTest {
         b.keeps("a way out", 4, both(maze, x -> x.turn(5, 2)), x -> x.steps(20, 40));
     }
 
+    @Words(promise = 28, say = "STEPS.")
+    static void stepsToTheOnlyOneLeftOfASet(Bench b) {
+        for (int left : new int[] {0, 19}) {
+            Bench.State one = x -> {
+                for (int manner = 0; manner < 20; manner++) {
+                    if (manner != left) {
+                        x.enter(3, 20 + manner);
+                    }
+                }
+            };
+            b.keeps("to manner " + left, 1, one, x -> x.steps(60 + left, 20 + left));
+            b.keeps("in another way, with another sauce, to " + left, 3, one, x -> x.steps(60 + 9, 20 + left));
+        }
+    }
+
+    @Words(promise = 28, say = "STEPS.")
+    static void stepsOneBehindTheOther(Bench b) {
+        NewDishes x = new NewDishes();
+        b.due("all", 1840, x.within(20, 12));
+        b.due("within none of another", 1, x.within(40, 0));
+        b.due("within one of another", 15, x.within(80, 1));
+        b.due("a way and a sauce", 2, x.steps(39, 20));
+        b.due("a sauce", 1, x.steps(20, 23));
+        Bench.noStores(x);
+        b.due("nothing can be any more", Bench.NONE, x.steps(20, 23));
+        b.due("within twelve of itself", 1, x.within(20, 12));
+    }
+
     // ---- promise 29
 
     @Words(promise = 29, say = "in n STEPS (0 to 12) or fewer (itself, too)")
@@ -539,6 +603,12 @@ public final class MealsEdgesTest {
             b.keeps("walk of " + n, want[n - 1], liked, x -> x.walk(20, most));
         }
         b.keeps("walk of twelve", 20 * 192 + 19, liked, x -> x.walk(20, 12));
+        b.keeps("no step is fewer than one", 20, Bench::fresh, x -> x.walk(20, 1));
+        b.keeps("no step is fewer than twelve", 20 * 128 + 19, x -> {
+            Bench.stores(x, 0, 0, 0, 0, 0, 0, 0, 1);
+            x.like(1, 4, 9);
+            x.like(2, 3, 9);
+        }, x -> x.walk(20 * 128 + 19, 12));
     }
 
     @Words(promise = 30, say = "The DISH (that CAN BE and is NEW) with the greatest LIKING")

@@ -584,8 +584,10 @@ public final class SheetsEdgesTest {
         b.due("bytes", 5, x.count(0));
         b.due("a sheet", 4, x.write(1, 1, 0));
         b.due("the text", 1, x.book());
+        Bench.feed(x, "day 8");
         x.image();
-        b.due("an empty tape", 0, x.count(0));
+        b.due("a tape stays as it is", 5, x.count(0));
+        x.wipe();
         x.undo();
         b.due("empty still", 0, x.count(0));
     }

@@ -39,6 +39,10 @@ public final class TextEdgesTest {
         String text = Bench.times(19, "day 1;") + "day 99";
         b.due("its length", 120, text.length());
         b.due("its day", 99, stands(b, 20, text).now(0));
+        String word = Bench.times(16, "day 1;") + "        edict sauces on";
+        b.due("its length", 119, word.length());
+        b.due("a word up to byte 119", 2, stands(b, 17, word).count(1));
+        b.due("a word up to byte 120", 2, stands(b, 17, " " + word).count(1));
         faults(b, 120, Bench.times(20, "day 1;"));
         faults(b, 120, Bench.times(19, "day 1;") + "  day ");
     }
@@ -65,6 +69,10 @@ public final class TextEdgesTest {
         // A word that is none is one token, up to the byte behind z and ahead of a.
         faults(b, 4, "day az");
         faults(b, 4, "day za");
+        faults(b, 0, "dayz 1");
+        faults(b, 0, "daya 1");
+        faults(b, 0, "zday 1");
+        faults(b, 0, "aday 1");
     }
 
     @Words(promise = 0, say = "NUMBERS (digits, 9999 at most)")
@@ -216,6 +224,10 @@ public final class TextEdgesTest {
     static void edictsOfAText(Bench b) {
         // At first the lively one has the edict of ways alone in force.
         b.due("sauces on", 2, stands(b, 1, "edict sauces on").count(1));
+        b.due("sauces are on", 0, stands(b, 1, "edict sauces on").edict(0, true));
+        b.due("sauces are off", 0, stands(b, 2, "edict sauces on;edict sauces off").edict(0, false));
+        b.due("ways are off", 0, stands(b, 1, "edict ways off").edict(1, false));
+        b.due("ways are on", 0, stands(b, 2, "edict ways off;edict ways on").edict(1, true));
         b.due("sauces off, as they are", 1, stands(b, 1, "edict sauces off").count(1));
         b.due("ways off", 0, stands(b, 1, "edict ways off").count(1));
         b.due("ways on, as they are", 1, stands(b, 1, "edict ways on").count(1));
