@@ -290,7 +290,11 @@ public final class MealsEdgesTest {
 
     @Words(promise = 24, say = "n MEALS (1 to 30), each of BEST, as a KIND, go")
     static void oneMealAndThirty(Bench b) {
-        b.due("one", 1, Bench::fresh, x -> x.meals(0, 1));
+        NewDishes one = new NewDishes();
+        b.due("one", 1, one.meals(0, 1));
+        b.due("no more than one came", 1, one.now(1));
+        b.due("nor went a day more", 1, one.now(0));
+        b.due("nor more of the stores", 39, one.now(3));
         NewDishes x = new NewDishes();
         b.due("thirty", 30, x.meals(5, 30));
         b.due("entries", 30, x.now(1));
